@@ -920,9 +920,10 @@ public final class FlagHoists {
             return 0;
         }
 
+        /** A HOIST has one MEANING just if each of its CODES has, so it is no matter where the row is cut. */
         private boolean isReadOneWay(int distance) {
-            for (int k = 0; k < hoists; k++) {
-                if (waysToRead(k, distance) != 1) {
+            for (int i = 0; i < size; i++) {
+                if (book.likenesses(row[i], distance) != 1) {
                     return false;
                 }
             }

@@ -134,6 +134,8 @@ public final class BookTest {
         fault("p5;p5;", 3);
         fault("p5;ka; p", 7);
         fault("p4294967301;", 1);
+        fault("p59;", 1);
+        fault("p95;", 1);
         // f
         fault("f", 1);
         fault("fa", 2);
@@ -151,6 +153,8 @@ public final class BookTest {
         fault("fa1 0;", 4);
         fault("fa1 10;", 4);
         fault("fa1 01;", 4);
+        fault("fa1 99;", 4);
+        fault("fa1 :;", 4);
         fault("fa1;", 3);
         fault("fa;", 2);
         fault("fab", 2);
