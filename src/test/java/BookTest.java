@@ -64,125 +64,115 @@ public final class BookTest {
         Check.due("PLACES", 5, x.count(2));
     }
 
-    private static void text(String text, int want) {
-        FlagHoists x = new FlagHoists();
-        Check.due("book of '" + text + "'", want, Check.read(x, text));
-        Check.due("letters behind '" + text + "'", want < 0 ? text.length() : 0, x.count(8));
-    }
-
     private static void goodTexts() {
-        text("", 0);
-        text("   ", 0);
-        text("p3;", 1);
-        text("p7;", 1);
-        text("  p  7  ;  ", 1);
-        text("fa0 1;fh7 9;", 2);
-        text("ff7 9;kffff;", 2);
-        text("ka;kb;kab;kba;kabcd;kh;kaaaa;kbbbb;kcccc;kdddd;", 10);
-        text("ka;p4;fa1 1;", 3);
-        text("fa1 1;fa1 1;", 2);
-        text("k a ; k  a a ;", 2);
+        Check.text("", 0);
+        Check.text("   ", 0);
+        Check.text("p3;", 1);
+        Check.text("p7;", 1);
+        Check.text("  p  7  ;  ", 1);
+        Check.text("fa0 1;fh7 9;", 2);
+        Check.text("ff7 9;kffff;", 2);
+        Check.text("ka;kb;kab;kba;kabcd;kh;kaaaa;kbbbb;kcccc;kdddd;", 10);
+        Check.text("ka;p4;fa1 1;", 3);
+        Check.text("fa1 1;fa1 1;", 2);
+        Check.text("k a ; k  a a ;", 2);
         StringBuilder blanks = new StringBuilder();
         for (int i = 0; i < 117; i++) {
             blanks.append(' ');
         }
-        text(blanks + "ka;", 1);
-        text("ka;" + blanks, 1);
-    }
-
-    private static void fault(String text, int place) {
-        text(text, -10 - place);
+        Check.text(blanks + "ka;", 1);
+        Check.text("ka;" + blanks, 1);
     }
 
     private static void faults() {
         // heads
-        fault(";", 0);
-        fault("a", 0);
-        fault("  h;", 2);
-        fault("5;", 0);
-        fault("ka;;", 3);
-        fault("ka;b;", 3);
+        Check.fault(";", 0);
+        Check.fault("a", 0);
+        Check.fault("  h;", 2);
+        Check.fault("5;", 0);
+        Check.fault("ka;;", 3);
+        Check.fault("ka;b;", 3);
         // other letters
-        fault("q", 0);
-        fault("i", 0);
-        fault("P5;", 0);
-        fault("K", 0);
-        fault("\tp5;", 0);
-        fault("ka\u0000;", 2);
-        fault("ka\u00ff;", 2);
-        fault("p:;", 1);
-        fault("p/;", 1);
-        fault("ki;", 1);
-        fault("k`;", 1);
-        fault("p5 ,", 3);
+        Check.fault("q", 0);
+        Check.fault("i", 0);
+        Check.fault("P5;", 0);
+        Check.fault("K", 0);
+        Check.fault("\tp5;", 0);
+        Check.fault("ka\u0000;", 2);
+        Check.fault("ka\u00ff;", 2);
+        Check.fault("p:;", 1);
+        Check.fault("p/;", 1);
+        Check.fault("ki;", 1);
+        Check.fault("k`;", 1);
+        Check.fault("p5 ,", 3);
         // p
-        fault("p", 1);
-        fault("p  ", 3);
-        fault("p5", 2);
-        fault("p5 ", 3);
-        fault("p2;", 1);
-        fault("p8;", 1);
-        fault("p0;", 1);
-        fault("p;", 1);
-        fault("p a;", 2);
-        fault("p5 5;", 3);
-        fault("p55;", 1);
-        fault("p05;", 1);
-        fault("p 10;", 2);
-        fault("p 00;", 2);
-        fault("p99999999999999999999;", 1);
-        fault("p5;p5;", 3);
-        fault("p5;ka; p", 7);
-        fault("p4294967301;", 1);
-        fault("p59;", 1);
-        fault("p95;", 1);
+        Check.fault("p", 1);
+        Check.fault("p  ", 3);
+        Check.fault("p5", 2);
+        Check.fault("p5 ", 3);
+        Check.fault("p2;", 1);
+        Check.fault("p8;", 1);
+        Check.fault("p0;", 1);
+        Check.fault("p;", 1);
+        Check.fault("p a;", 2);
+        Check.fault("p5 5;", 3);
+        Check.fault("p55;", 1);
+        Check.fault("p05;", 1);
+        Check.fault("p 10;", 2);
+        Check.fault("p 00;", 2);
+        Check.fault("p99999999999999999999;", 1);
+        Check.fault("p5;p5;", 3);
+        Check.fault("p5;ka; p", 7);
+        Check.fault("p4294967301;", 1);
+        Check.fault("p59;", 1);
+        Check.fault("p95;", 1);
         // f
-        fault("f", 1);
-        fault("fa", 2);
-        fault("fa1", 3);
-        fault("fa1 ", 4);
-        fault("fa1 2", 5);
-        fault("f;", 1);
-        fault("f1", 1);
-        fault("fp1 1;", 1);
-        fault("fk1 1;", 1);
-        fault("fi1 1;", 1);
-        fault("fa8 1;", 2);
-        fault("fa9 1;", 2);
-        fault("fa11;", 2);
-        fault("fa1 0;", 4);
-        fault("fa1 10;", 4);
-        fault("fa1 01;", 4);
-        fault("fa1 99;", 4);
-        fault("fa1 :;", 4);
-        fault("fa1;", 3);
-        fault("fa;", 2);
-        fault("fab", 2);
-        fault("fa1 1 1;", 6);
-        fault("fa1 1a;", 5);
-        fault("fa1 1 p", 6);
+        Check.fault("f", 1);
+        Check.fault("fa", 2);
+        Check.fault("fa1", 3);
+        Check.fault("fa1 ", 4);
+        Check.fault("fa1 2", 5);
+        Check.fault("f;", 1);
+        Check.fault("f1", 1);
+        Check.fault("fp1 1;", 1);
+        Check.fault("fk1 1;", 1);
+        Check.fault("fi1 1;", 1);
+        Check.fault("fa8 1;", 2);
+        Check.fault("fa9 1;", 2);
+        Check.fault("fa11;", 2);
+        Check.fault("fa1 0;", 4);
+        Check.fault("fa1 10;", 4);
+        Check.fault("fa1 01;", 4);
+        Check.fault("fa1 99;", 4);
+        Check.fault("fa1 :;", 4);
+        Check.fault("fa1;", 3);
+        Check.fault("fa;", 2);
+        Check.fault("fab", 2);
+        Check.fault("fa1 1 1;", 6);
+        Check.fault("fa1 1a;", 5);
+        Check.fault("fa1 1 p", 6);
         // k
-        fault("k", 1);
-        fault("ka", 2);
-        fault("ka ", 3);
-        fault("k;", 1);
-        fault("kk;", 1);
-        fault("kp;", 1);
-        fault("k1;", 1);
-        fault("ka1;", 2);
-        fault("kap;", 2);
-        fault("kak", 2);
-        fault("kabcda;", 5);
-        fault("kabcd a", 6);
-        fault("kabcd", 5);
-        fault("kabcdq", 5);
-        fault("ka;ka;", 5);
-        fault("ka;ka ;", 6);
-        fault("ka;ka", 5);
-        fault("ka;kap;", 5);
-        fault("kabcd;kb;kabcd;", 14);
-        fault("ka;kb;kc;kd;ke;kf;kg;kh;kaa;kbb;kcc;", 32);
-        fault("ka;kb;kc;kd;ke;kf;kg;kh;kaa;kbb; k", 33);
+        Check.fault("k", 1);
+        Check.fault("ka", 2);
+        Check.fault("ka ", 3);
+        Check.fault("k;", 1);
+        Check.fault("kk;", 1);
+        Check.fault("kp;", 1);
+        Check.fault("k1;", 1);
+        Check.fault("ka1;", 2);
+        Check.fault("kap;", 2);
+        Check.fault("kak", 2);
+        Check.fault("kabcda;", 5);
+        Check.fault("kabcd a", 6);
+        Check.fault("kabcd", 5);
+        Check.fault("kabcdq", 5);
+        Check.fault("ka;ka;", 5);
+        Check.fault("ka;ka ;", 6);
+        Check.fault("ka;ka", 5);
+        Check.fault("ka;kap;", 5);
+        Check.fault("kabcd;kb;kabcd;", 14);
+        Check.fault("ka;kb;kc;kd;ke;kf;kg;kh;kaa;kbb;kcc;", 32);
+        Check.fault("ka;kb;kc;kd;ke;kf;kg;kh;kaa;kbb; k", 33);
     }
 
     private static void faultChangesNothing() {

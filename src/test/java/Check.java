@@ -2,22 +2,43 @@ import java.util.Arrays;
 
 /** What the tests of the project share: telling what is due, and typing texts. */
 final class Check {
+    private static final int MOST_TOLD = 200;
+
     private static int wrong = 0;
+    private static int checks = 0;
+    /** Told ahead of what is wrong, as the sentence that is tested. */
+    private static String about = "";
 
     private Check() {
     }
 
+    static void about(String what) {
+        about = what;
+    }
+
+    /** How many checks were made so far. */
+    static int checks() {
+        return checks;
+    }
+
+    private static void tellWrong(String what) {
+        wrong++;
+        if (wrong <= MOST_TOLD) {
+            System.out.println(about.isEmpty() ? what : "[" + about + "] " + what);
+        }
+    }
+
     static void due(String call, long want, long got) {
+        checks++;
         if (got != want) {
-            wrong++;
-            System.out.println(call + " answered " + got + ", due is " + want);
+            tellWrong(call + " answered " + got + ", due is " + want);
         }
     }
 
     static void isTrue(String what, boolean holds) {
+        checks++;
         if (!holds) {
-            wrong++;
-            System.out.println(what);
+            tellWrong(what);
         }
     }
 
@@ -36,11 +57,30 @@ final class Check {
         return x.book();
     }
 
+    /** A text read by a new object: what it answers, and that it is gone if it was no fault. */
+    static void text(String text, int want) {
+        FlagHoists x = new FlagHoists();
+        due("book of '" + text + "'", want, read(x, text));
+        due("letters behind '" + text + "'", want < 0 ? text.length() : 0, x.count(8));
+    }
+
+    /** A text whose fault is at a place. */
+    static void fault(String text, int place) {
+        text(text, -10 - place);
+    }
+
     /** A new object whose book is read from a text. */
     static FlagHoists booked(String text) {
         FlagHoists x = new FlagHoists();
         int answer = read(x, text);
         isTrue("the text '" + text + "' answered " + answer, answer >= 0);
+        return x;
+    }
+
+    /** A new object with a book, and sentences in its message. */
+    static FlagHoists with(String text, int... sentences) {
+        FlagHoists x = booked(text);
+        put(x, sentences);
         return x;
     }
 
@@ -82,9 +122,16 @@ final class Check {
         due(when + ": count(3)", sizes.length, x.count(3));
     }
 
+    /** The answers of count(0), count(1), .. */
+    static void counts(String when, FlagHoists x, int... counts) {
+        for (int what = 0; what < counts.length; what++) {
+            due(when + ": count(" + what + ")", counts[what], x.count(what));
+        }
+    }
+
     /** Ends the test: with exit code 1 if something was wrong. */
     static void end() {
-        System.out.println(wrong == 0 ? "all is as due" : wrong + " wrong");
+        System.out.println(wrong == 0 ? "all is as due (" + checks + " checks)" : wrong + " wrong");
         if (wrong != 0) {
             System.exit(1);
         }
