@@ -158,11 +158,10 @@ final class BookEdges {
     private static void typeAll() {
         FlagHoists x = new FlagHoists();
         for (int letter = 0; letter <= 255; letter++) {
-            if (x.count(8) == 120) {
-                x.clear();
+            if (letter % 100 == 0) {
+                x = new FlagHoists();
             }
-            int had = x.count(8);
-            Check.due("type(" + letter + ")", had + 1, x.type(letter));
+            Check.due("type(" + letter + ")", letter % 100 + 1, x.type(letter));
         }
     }
 

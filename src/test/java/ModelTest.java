@@ -4,6 +4,8 @@ import java.util.Random;
 public final class ModelTest {
     private static final int RUNS = 1500;
     private static final int CALLS = 512;
+    /** So many calls one step of a run makes at most, but for those that tell a book. */
+    private static final int STEP = 9;
     private static final int[] WILD = {Integer.MIN_VALUE, -10, -2, -1, 8, 9, 10, 11, 255, 256, Integer.MAX_VALUE};
 
     private final Random random;
@@ -25,7 +27,7 @@ public final class ModelTest {
     }
 
     private void run() {
-        while (calls < CALLS) {
+        while (calls <= CALLS - STEP) {
             if (calls == 0 || random.nextInt(120) == 0) {
                 tellBook();
             } else {
@@ -55,8 +57,12 @@ public final class ModelTest {
     }
 
     private void tellBook() {
+        String text = random.nextInt(6) == 0 ? spoiled(goodText()) : goodText();
+        if (calls + text.length() + 2 > CALLS) {
+            return;
+        }
         due("clear()", model.clear(), x.clear());
-        typeAll(random.nextInt(6) == 0 ? spoiled(goodText()) : goodText());
+        typeAll(text);
         due("book()", model.book(), x.book());
     }
 
